@@ -13,6 +13,7 @@ public final class AheadTest {
         adviseByWarmth();
         adviseOfSeveral();
         adviseToTheFirstFreePlace();
+        adviseToThePlaceZero();
         adviseLeavesOutFullOnes();
         adviseByDays();
         adviseWithMonks();
@@ -213,6 +214,19 @@ public final class AheadTest {
         x.make(1, 6);
         x.infect(4, 1);
         Check.dueWithoutChange(x, "in its own at its place", () -> x.advise(0, 4), 1);
+    }
+
+    private static void adviseToThePlaceZero() {
+        CheeseRota x = new CheeseRota();
+        x.build(9, 9);
+        x.build(9, 9);
+        x.make(1, 5);
+        x.make(0, 2);
+        x.pass(10);
+        x.infect(1, 3);
+        Check.dueWithoutChange(x, "at 0, not beside the black one at 2", () -> x.advise(0, 3), 0);
+        x.carry(1, 0, 1);
+        Check.dueWithoutChange(x, "at 0, beside the black one at 1", () -> x.advise(0, 3), 1);
     }
 
     private static void adviseLeavesOutFullOnes() {
