@@ -1,75 +1,118 @@
-import java.util.function.LongSupplier;
+import java.lang.reflect.InvocationTargetException;
+import java.lang.reflect.Method;
+import java.util.Arrays;
+import java.util.Comparator;
+import java.util.List;
+import java.util.function.Supplier;
+import java.util.function.ToLongFunction;
 
-/** Counts what is right and wrong in one test program. */
+/** Runs the tests of a class, and counts what is right and wrong. */
 final class Check {
     private static int right = 0;
     private static int wrong = 0;
+    private static String about = "";
 
     private Check() {
     }
 
-    static void due(String what, long got, long want) {
-        if (got == want) {
+    /** Runs each method that has a Sentence, in the order of their names. */
+    static void sentencesOf(Class<?> tests) {
+        Method[] methods = tests.getDeclaredMethods();
+        Arrays.sort(methods, Comparator.comparing(Method::getName));
+        for (Method method : methods) {
+            Sentence sentence = method.getAnnotation(Sentence.class);
+            if (sentence != null) {
+                about = method.getName() + " (" + sentence.under() + ": \"" + sentence.words() + "\"): ";
+                run(method);
+            }
+        }
+        about = "";
+        end(tests.getSimpleName());
+    }
+
+    private static void run(Method test) {
+        try {
+            test.setAccessible(true);
+            test.invoke(null);
+        } catch (InvocationTargetException e) {
+            note(false, "it threw " + e.getCause());
+        } catch (IllegalAccessException e) {
+            note(false, "it can't be run: " + e);
+        }
+    }
+
+    private static void note(boolean holds, String otherwise) {
+        if (holds) {
             right++;
         } else {
             wrong++;
-            System.out.println("  " + what + " answered " + got + ", due is " + want);
+            System.out.println("  " + about + otherwise);
         }
+    }
+
+    static void due(String what, long got, long want) {
+        note(got == want, what + " answered " + got + ", due is " + want);
     }
 
     static void due(String what, double got, double want) {
-        due(what, Double.doubleToLongBits(got), Double.doubleToLongBits(want));
+        boolean same = Double.doubleToLongBits(got) == Double.doubleToLongBits(want);
+        note(same, what + " answered " + got + ", due is " + want);
     }
 
     static void isTrue(String what, boolean holds) {
-        due(what, holds ? 1 : 0, 1);
+        note(holds, what + " does not hold");
     }
 
-    /** The call throws just this exception and changes nothing. */
-    static void refused(CheeseRota x, String what, Class<? extends Exception> due, LongSupplier call) {
-        long before = fingerprint(x);
-        String got = "nothing";
+    /** The call throws just this exception, and all that can be asked behind it is as without it. */
+    static void refused(Supplier<CheeseRota> maker, String what, Class<? extends RuntimeException> due,
+            ToLongFunction<CheeseRota> call) {
+        CheeseRota x = maker.get();
+        long before = x.digest();
+        String thrown = thrownBy(x, call);
+        note(thrown.equals(due.getSimpleName()), what + " threw " + thrown + ", due is " + due.getSimpleName());
+        due("digest() behind " + what, x.digest(), before);
+        sameAnswers(what, x, maker.get());
+    }
+
+    /** The call answers this, and all that can be asked behind it is as without it. */
+    static void changesNothing(Supplier<CheeseRota> maker, String what, ToLongFunction<CheeseRota> call, long want) {
+        CheeseRota x = maker.get();
+        long before = x.digest();
+        due(what, call.applyAsLong(x), want);
+        due("digest() behind " + what, x.digest(), before);
+        sameAnswers(what, x, maker.get());
+    }
+
+    /** The call, on an object of its own, answers this. */
+    static void answers(Supplier<CheeseRota> maker, String what, ToLongFunction<CheeseRota> call, long want) {
+        due(what, call.applyAsLong(maker.get()), want);
+    }
+
+    /** The call, on an object of its own, answers whatever it may, but throws nothing. */
+    static void allowed(Supplier<CheeseRota> maker, String what, ToLongFunction<CheeseRota> call) {
+        String thrown = thrownBy(maker.get(), call);
+        note(thrown.equals("nothing"), what + " threw " + thrown + ", due is an answer");
+    }
+
+    private static String thrownBy(CheeseRota x, ToLongFunction<CheeseRota> call) {
         try {
-            call.getAsLong();
+            call.applyAsLong(x);
+            return "nothing";
         } catch (RuntimeException e) {
-            got = e.getClass().getSimpleName();
+            return e.getClass().getSimpleName();
         }
-        if (!got.equals(due.getSimpleName())) {
-            wrong++;
-            System.out.println("  " + what + " threw " + got + ", due is " + due.getSimpleName());
-        } else {
-            right++;
-        }
-        due("state behind " + what, fingerprint(x), before);
     }
 
-    /** The call answers this and changes nothing. */
-    static void dueWithoutChange(CheeseRota x, String what, LongSupplier call, long want) {
-        long before = fingerprint(x);
-        due(what, call.getAsLong(), want);
-        due("state behind " + what, fingerprint(x), before);
-    }
-
-    static void noSuch(CheeseRota x, String what, LongSupplier call) {
-        refused(x, what, IndexOutOfBoundsException.class, call);
-    }
-
-    static void badArgument(CheeseRota x, String what, LongSupplier call) {
-        refused(x, what, IllegalArgumentException.class, call);
-    }
-
-    static void badState(CheeseRota x, String what, LongSupplier call) {
-        refused(x, what, IllegalStateException.class, call);
-    }
-
-    static long fingerprint(CheeseRota x) {
-        long sum = x.digest();
-        for (int cellar = 0; cellar < x.count(1); cellar++) {
-            for (int place = 0; place < 10; place++) {
-                sum = sum * 31 + x.at(cellar, place);
+    private static void sameAnswers(String what, CheeseRota got, CheeseRota want) {
+        List<String> gotAnswers = Answers.of(got);
+        List<String> wantAnswers = Answers.of(want);
+        for (int i = 0; i < wantAnswers.size() && i < gotAnswers.size(); i++) {
+            if (!gotAnswers.get(i).equals(wantAnswers.get(i))) {
+                note(false, "behind " + what + ": " + gotAnswers.get(i) + ", due is " + wantAnswers.get(i));
+                return;
             }
         }
-        return sum;
+        note(gotAnswers.size() == wantAnswers.size(), "behind " + what + " there is more or less to ask");
     }
 
     static void end(String test) {
