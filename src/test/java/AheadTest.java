@@ -183,6 +183,23 @@ public final class AheadTest {
         return sum;
     }
 
+    @Sentence(under = "Promise 17", words = "if nothing is done")
+    private static void foreseeWhileTheMonksGoOn() {
+        for (int day = 0; day <= 6; day++) {
+            CheeseRota x = Dairies.salted(12, 0, 9, 0);
+            x.infect(0, 1);
+            // on its salt the mould grows not, so that one washing takes it away
+            due(x, "mouldy behind 7 days without a washing", () -> x.foresee(7, 1), 1);
+            x.setRota(0, day, Dairies.WASH);
+            due(x, "mouldy behind 7 days with a washing on the day " + day, () -> x.foresee(7, 1), 0);
+            int untilThen = Math.floorMod(day - x.count(0), 7);
+            if (untilThen > 0) {
+                due(x, "mouldy on the day ahead of it", () -> x.foresee(untilThen, 1), 1);
+            }
+            due(x, "mouldy on the day behind it", () -> x.foresee(untilThen + 1, 1), 0);
+        }
+    }
+
     @Sentence(under = "Promise 17", words = "Returns this, if nothing is done (nothing is changed).")
     private static void foreseeChangesNothing() {
         for (int asked = 0; asked <= 2; asked++) {
@@ -280,6 +297,14 @@ public final class AheadTest {
         due(x, "advise when its own is full and worse", () -> x.advise(0, 20), 0);
         x.sell(19);
         due(x, "advise when the place 9 of the other one is free", () -> x.advise(0, 20), 1);
+    }
+
+    @Sentence(under = "Promise 18", words = "such a one without a free place is left out")
+    private static void adviseLeavesOutAFullOneThoughItIsWorth0() {
+        CheeseRota x = Dairies.withWheels(11);
+        due(x, "advise of one worth 0, when the first cellar is full", () -> x.advise(10, 1), 1);
+        x.sell(9);
+        due(x, "advise of one worth 0, when the first cellar has a place", () -> x.advise(10, 1), 0);
     }
 
     @Sentence(under = "Promise 18", words = "so that it is worth the most behind so many days")

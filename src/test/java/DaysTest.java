@@ -295,6 +295,29 @@ public final class DaysTest {
         }
     }
 
+    @Sentence(under = "Terms", words = "if the wheel has a mould with a growth of 4 or more")
+    private static void aMouldOnSaltIsCarriedAndLeaps() {
+        CheeseRota x = Dairies.oneCellar(0, 5, 0);
+        hireFor(x, 1, Dairies.SALT);
+        x.infect(0, BLUE);
+        x.pass(10);
+        Check.due("salt", x.wheel(0, 4), 20);
+        Check.due("growth, which went on to a salt of 10", x.wheel(0, 8), 6);
+        x.make(0, 1);
+        x.make(0, 5);
+        hireFor(x, 3, Dairies.TURN);
+        Dairies.setAllDays(x, 0, Dairies.REST);
+        x.pass(1);
+        Check.due("hands", x.monk(1, 2), BLUE);
+        Check.due("mould of the next one", x.wheel(1, 7), BLUE);
+        Check.due("mould of the one far off", x.wheel(2, 7), BLUE);
+        Dairies.setAllDays(x, 1, Dairies.REST);
+        x.infect(1, 0);
+        x.pass(1);
+        Check.due("mould that leapt", x.wheel(1, 7), BLUE);
+        Check.due("from where", x.wheel(1, 9), 0);
+    }
+
     @Sentence(under = "Terms", words = "the hands have this mould from now on")
     private static void handsChangeTheirMould() {
         CheeseRota x = dairy(0, 5, 0, 2, 4, 6, 8);

@@ -126,6 +126,20 @@ public final class LooksTest {
         }
     }
 
+    @Sentence(under = "Promise 10", words = "(of one that was sold or lost as it was)")
+    private static void wheelThatIsLostByACaughtMould() {
+        CheeseRota x = Dairies.oneCellar(9, 5, 0, 1);
+        x.infect(0, 3);
+        Check.due("lost in 8 days", x.pass(8), 1);
+        facts("lost by a mould from nowhere", x, 0, 2, -1, -1, 67, 0, 64, 8, 3, 9, -1, 3);
+        // it leapt on the fifth day
+        Check.due("lost in 4 days more", x.pass(4), 1);
+        for (int days = 0; days <= 1; days++) {
+            facts("lost by a mould from the wheel 0", x, 1, 2, -1, -1, 83, 0, 56, 12, 3, 9, 0, 27);
+            x.pass(100);
+        }
+    }
+
     // ---- cellar, at, monk, count
 
     @Sentence(under = "Promise 11", words = "0 its warmth, 1 its damp, 2 wheels in it, 3 those with a mould")
@@ -324,6 +338,12 @@ public final class LooksTest {
         Check.due("mean of the one that is left", sold.mean(), 75.0);
         sold.sell(1);
         Check.due("mean when all were sold", sold.mean(), 0.0);
+        CheeseRota someLost = Dairies.oneCellar(9, 0, 0);
+        someLost.build(9, 2);
+        someLost.make(1, 0);
+        someLost.pass(16);
+        // ripeness 99, water 16
+        Check.due("mean of the one that is not lost", someLost.mean(), 75.0);
         CheeseRota lost = Dairies.oneCellar(9, 0, 0, 5);
         lost.pass(15);
         // ripeness 63 + 32, water 5
